@@ -3,6 +3,7 @@ import java.util.NoSuchElementException;
 
 /** What all tests share: answers that are due, and texts that come on the tape. */
 final class Due {
+    private static final int MOST_TOLD = 30;
     private static int wrong = 0;
 
     interface Call {
@@ -14,8 +15,15 @@ final class Due {
 
     static void is(String what, long want, long got) {
         if (want != got) {
-            wrong++;
-            System.out.println(what + " answered " + got + ", due is " + want);
+            tell(what + " answered " + got + ", due is " + want);
+        }
+    }
+
+    /** A broken promise may show in thousands of calls: some of them are enough to read. */
+    private static void tell(String line) {
+        wrong++;
+        if (wrong <= MOST_TOLD) {
+            System.out.println(line);
         }
     }
 
@@ -25,16 +33,14 @@ final class Due {
 
     static void same(String what, String want, String got) {
         if (!want.equals(got)) {
-            wrong++;
-            System.out.println(what + " answered '" + got + "', due is '" + want + "'");
+            tell(what + " answered '" + got + "', due is '" + want + "'");
         }
     }
 
     static void isThrown(String what, Call call) {
         try {
             long got = call.get();
-            wrong++;
-            System.out.println(what + " answered " + got + ", due is NoSuchElementException");
+            tell(what + " answered " + got + ", due is NoSuchElementException");
         } catch (NoSuchElementException e) {
             return;
         }
