@@ -101,6 +101,18 @@ public final class NightTest {
         Due.is("answer(1) stands", 5, x.answer(1));
         Due.is("asked twice", 2, x.test(2, 2));
 
+        DreamTests full = Due.withBook(BOOK);
+        for (int i = 0; i < 11; i++) {
+            full.ask(2, 0);
+        }
+        full.ask(1, 1);
+        full.sleep();
+        full.ask(0, 1);
+        full.undo();
+        full.undo();
+        Due.is("all 12 again", 12, full.count(8));
+        Due.is("the last of them", 3, full.answer(11));
+
         DreamTests y = Due.withBook(BOOK);
         y.ask(1, 1);
         y.ask(0, 0);
@@ -327,6 +339,8 @@ public final class NightTest {
         }
         Due.is("wrongs over the greatest seed", wrongsByHand(2, Integer.MAX_VALUE - 20),
             x.wrongs(60, 2, Integer.MAX_VALUE - 20));
+        Due.is("one NIGHT in the room", 1, wrongsOfOne(0));
+        Due.is("one NIGHT in a dream", 0, wrongsOfOne(1));
         Due.is("wrongs(0, 1, 1)", -1, x.wrongs(0, 1, 1));
         Due.is("wrongs(-1, 1, 1)", -1, x.wrongs(-1, 1, 1));
         Due.is("wrongs(61, 1, 1)", -1, x.wrongs(61, 1, 1));
@@ -336,6 +350,16 @@ public final class NightTest {
         Due.is("this NIGHT stands", 1, x.count(8));
         Due.is("its answer too", 1, x.answer(0));
         Due.is("undo() of the one ask()", 0, x.undo());
+    }
+
+    /** A NIGHT without TESTS, by a seed that leads there: by the BOOK one stays in bed then. */
+    private static int wrongsOfOne(int place) {
+        DreamTests y = Due.withBook("dream k 1;wrong 2;");
+        int seed = 0;
+        while (drawnByHand(1, 1, 0, seed) != place) {
+            seed++;
+        }
+        return y.wrongs(1, 0, seed);
     }
 
     private static int wrongsByHand(int n, int seed) {

@@ -150,6 +150,8 @@ public final class SentenceTest {
         isSaid(x, "not (good or kept k)", 2, 4);
         isSaid(x, "not good and not good or not not place = 0", 0, 1, 2, 4);
         isSaid(x, "good and not good");
+        isSaid(x, "asked or ".repeat(10) + "good and ".repeat(9) + "place=3", 3);
+        isSaid(x, "not not not not not not(" + "good or ".repeat(12) + "kept l)", 0, 3, 4);
         isSaid(Due.withBook(""), "not good");
     }
 
