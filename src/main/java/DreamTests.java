@@ -220,25 +220,25 @@ public final class DreamTests {
         if (!Plan.isFor(book, n) || !isSide(what)) {
             throw new NoSuchElementException();
         }
-        plan.open(book);
-        return fraction(plan.leastCost(n), book.allWeights() * power(n), what);
+        plan.open(book, n);
+        return fraction(plan.leastCost(), book.allWeights() * power(n), what);
     }
 
     public int first(int n) {
         if (!Plan.isFor(now.night.book, n)) {
             return NONE;
         }
-        plan.open(now.night.book);
-        return plan.firstTest(n);
+        plan.open(now.night.book, n);
+        return plan.firstTest();
     }
 
     public int write(int n) {
         if (!Plan.isFor(now.night.book, n)) {
             return NONE;
         }
-        plan.open(now.night.book);
+        plan.open(now.night.book, n);
         text.size = 0;
-        plan.writeTo(text, n);
+        plan.writeTo(text);
         return text.size;
     }
 
@@ -656,40 +656,23 @@ public final class DreamTests {
             int letters = 0;
             int digits = 0;
             int to = place;
-            for (; to < tape.size && isLetterOrDigit(tape.at(to)); to++) {
+            for (; to < tape.size && (isLetter(tape.at(to)) || isDigit(tape.at(to))); to++) {
                 if (isLetter(tape.at(to))) {
                     letters++;
+                    name = withLetter(name, tape.at(to));
                 } else {
                     digits++;
+                    number = 10 * number + tape.at(to) - '0';
                 }
             }
-            if (to == place) {
+            ahead = Math.max(to, place + 1);
+            if (letters == 0 && digits == 0) {
                 kind = isSign(tape.at(place)) ? tape.at(place) : NO_TOKEN;
-                ahead = place + 1;
-                return;
-            }
-            ahead = to;
-            if (digits == 0 && letters <= MOST_LETTERS) {
-                readWord(to);
-            } else if (letters == 0 && digits <= MOST_DIGITS) {
-                readNumber(to);
+            } else if (digits == 0 && letters <= MOST_LETTERS) {
+                kind = WORD;
+                word = Word.named(name);
             } else {
-                kind = NO_TOKEN;
-            }
-        }
-
-        private void readWord(int to) {
-            kind = WORD;
-            for (int i = place; i < to; i++) {
-                name = withLetter(name, tape.at(i));
-            }
-            word = Word.named(name);
-        }
-
-        private void readNumber(int to) {
-            kind = NUMBER;
-            for (int i = place; i < to; i++) {
-                number = 10 * number + tape.at(i) - '0';
+                kind = letters == 0 && digits <= MOST_DIGITS ? NUMBER : NO_TOKEN;
             }
         }
 
@@ -773,12 +756,12 @@ public final class DreamTests {
             return sign >= 'a' && sign <= 'z';
         }
 
-        private static boolean isLetterOrDigit(int sign) {
-            return isLetter(sign) || sign >= '0' && sign <= '9';
+        private static boolean isDigit(int sign) {
+            return sign >= '0' && sign <= '9';
         }
 
         private static boolean isSign(int sign) {
-            return sign == ';' || sign == '(' || sign == ')' || isOrder(sign);
+            return sign == ';' || sign == '(' || sign == ')' || sign == '<' || sign == '=' || sign == '>';
         }
 
         static boolean isOrder(int sign) {
@@ -806,8 +789,9 @@ public final class DreamTests {
         private final int[] rooms = new int[MOST_TESTS];
         private final int[] dreamings = new int[MOST_TESTS];
         private final long[] dreamNames = new long[MOST_DREAMS];
-        private final int[] weights = new int[MOST_DREAMS];
-        private final int[] keeps = new int[MOST_DREAMS];
+        /** By place; 0 where there is no DREAM, so that sums over all places need no care. */
+        private final int[] weights = new int[PLACES];
+        private final int[] keeps = new int[PLACES];
 
         boolean readLines(Reader in) {
             for (int i = 0; i < Bytes.MOST && in.kind != Reader.END; i++) {
@@ -873,8 +857,8 @@ public final class DreamTests {
                 return false;
             }
             dreamNames[dream] = name;
-            weights[dream] = weight;
-            keeps[dream] = kept;
+            weights[dream + 1] = weight;
+            keeps[dream + 1] = kept;
             dreams++;
             return true;
         }
@@ -945,7 +929,7 @@ public final class DreamTests {
         }
 
         boolean hasTest(int test) {
-            return test >= 0 && test < tests && test < MOST_TESTS;
+            return test >= 0 && test < tests;
         }
 
         boolean hasTests(int set) {
@@ -953,7 +937,7 @@ public final class DreamTests {
         }
 
         boolean hasDream(int dream) {
-            return dream >= 0 && dream < dreams && dream < MOST_DREAMS;
+            return dream >= 0 && dream < dreams;
         }
 
         int setting(int i) {
@@ -961,23 +945,22 @@ public final class DreamTests {
         }
 
         long nameOf(int test) {
-            return hasTest(test) ? testNames[test] : 0;
+            return test >= 0 && test < testNames.length ? testNames[test] : 0;
         }
 
         int inRoom(int test) {
-            return hasTest(test) ? rooms[test] : 0;
+            return test >= 0 && test < rooms.length ? rooms[test] : 0;
         }
 
         int inDream(int test) {
-            return hasTest(test) ? dreamings[test] : 0;
+            return test >= 0 && test < dreamings.length ? dreamings[test] : 0;
         }
 
-        /** 0 where there is no such place, so that sums over all places need no care. */
         int weightOf(int place) {
             if (place == 0) {
                 return settings[0];
             }
-            return hasDream(place - 1) ? weights[place - 1] : 0;
+            return place > 0 && place < weights.length ? weights[place] : 0;
         }
 
         int allWeights() {
@@ -989,7 +972,7 @@ public final class DreamTests {
         }
 
         int keptIn(int place) {
-            return hasDream(place - 1) ? keeps[place - 1] : 0;
+            return place >= 0 && place < keeps.length ? keeps[place] : 0;
         }
 
         int keepersOf(int test) {
@@ -1309,13 +1292,21 @@ public final class DreamTests {
         }
     }
 
-    /** LEAST COST: what one does at each depth of a way, by how likely each place is there. */
+    /** LEAST COST by at most n TESTS, for every state: what was asked and answered so far, whatever the order. */
     private static final class Plan {
         private static final int MOST_ASKED = 4;
         private static final int MOST_CHOICES = 6;
+        /** A state has a digit to the base of 3 for each TEST: 0 not asked, 1 it STAYED, 2 it MOVED. */
+        private static final int STATES = 729;
+        private static final int[] UNITS = {1, 3, 9, 27, 81, 243};
 
+        /** How likely each place is behind the answers of a state, by how many there are. */
         private final long[][] likely = new long[MOST_ASKED + 1][PLACES];
-        private final long[] least = new long[MOST_ASKED + 1];
+        /** Of a state, times 9 to the number of TESTS that can still be asked. */
+        private final long[] costs = new long[STATES];
+        private final int[] choices = new int[STATES];
+        private final boolean[] ups = new boolean[STATES];
+        private final boolean[] known = new boolean[STATES];
         private Book book;
 
         Plan(Book book) {
@@ -1326,100 +1317,118 @@ public final class DreamTests {
             return n >= 0 && n <= MOST_ASKED && book.tests <= MOST_CHOICES;
         }
 
-        void open(Book newBook) {
+        void open(Book newBook, int n) {
             book = newBook;
+            for (int state = 0; state < known.length; state++) {
+                known[state] = false;
+            }
             for (int place = 0; place < PLACES; place++) {
                 likely[0][place] = book.weightOf(place);
             }
+            choose(0, 0, n);
         }
 
-        long leastCost(int n) {
-            choose(0, n, 0);
-            return least[0];
+        long leastCost() {
+            return costs[0];
         }
 
-        int firstTest(int n) {
-            return choose(0, n, 0);
+        int firstTest() {
+            return choices[0];
         }
 
-        void writeTo(Bytes text, int n) {
-            writeWay(text, 0, n, 0);
+        void writeTo(Bytes text) {
+            writeWay(text, 0, 0);
         }
 
-        /** The TEST to ask, or NONE; its cost, times 9 to the number of TESTS left, is put down for this depth. */
-        private int choose(int depth, int left, int used) {
-            if (depth < 0 || depth >= least.length) {
-                return NONE;
+        private static boolean isState(int state) {
+            return state >= 0 && state < STATES;
+        }
+
+        private static int behind(int state, int test, int stays) {
+            int unit = test >= 0 && test < UNITS.length ? UNITS[test] : 0;
+            return state + (stays == 1 ? unit : 2 * unit);
+        }
+
+        /** Puts down for a state, in which these TESTS were asked, what is done there and what it costs. */
+        private void choose(int state, int used, int left) {
+            int asked = Integer.bitCount(used);
+            if (!isState(state) || asked > MOST_ASKED) {
+                return;
             }
-            long best = Math.min(costOfUp(depth), costOfBed(depth)) * power(left);
+            long up = costOfUp(asked);
+            long bed = costOfBed(asked);
+            long best = Math.min(up, bed) * power(left);
             int choice = NONE;
             for (int test = 0; test < book.tests && left > 0; test++) {
                 if ((used & 1 << test) == 0) {
-                    long cost = costOfAsking(test, depth, left, used);
+                    long cost = costBehind(state, used, left, test, 1) + costBehind(state, used, left, test, 0);
                     if (cost < best) {
                         best = cost;
                         choice = test;
                     }
                 }
             }
-            least[depth] = best;
-            return choice;
+            known[state] = true;
+            costs[state] = best;
+            choices[state] = choice;
+            ups[state] = up <= bed;
         }
 
-        private long costOfAsking(int test, int depth, int left, int used) {
-            if (depth < 0 || depth + 1 >= least.length) {
+        private long costBehind(int state, int used, int left, int test, int stays) {
+            int next = behind(state, test, stays);
+            if (!isState(next)) {
                 return 0;
             }
-            goOn(depth, test, 1);
-            choose(depth + 1, left - 1, used | 1 << test);
-            long cost = least[depth + 1];
-            goOn(depth, test, 0);
-            choose(depth + 1, left - 1, used | 1 << test);
-            return cost + least[depth + 1];
+            if (!known[next]) {
+                goOn(Integer.bitCount(used), test, stays);
+                choose(next, used | 1 << test, left - 1);
+            }
+            return costs[next];
         }
 
-        private void writeWay(Bytes text, int depth, int left, int used) {
-            int test = choose(depth, left, used);
-            if (test == NONE || depth >= MOST_ASKED) {
-                text.putText(costOfUp(depth) <= costOfBed(depth) ? "up" : "bed");
+        private void writeWay(Bytes text, int state, int asked) {
+            if (!isState(state) || asked > MOST_ASKED) {
+                return;
+            }
+            int test = choices[state];
+            if (test == NONE) {
+                text.putText(ups[state] ? "up" : "bed");
                 return;
             }
             text.putName(book.nameOf(test));
             text.putText(" ( ");
-            goOn(depth, test, 1);
-            writeWay(text, depth + 1, left - 1, used | 1 << test);
+            writeWay(text, behind(state, test, 1), asked + 1);
             text.putText(" ; ");
-            goOn(depth, test, 0);
-            writeWay(text, depth + 1, left - 1, used | 1 << test);
+            writeWay(text, behind(state, test, 0), asked + 1);
             text.putText(" )");
         }
 
-        private void goOn(int depth, int test, int stays) {
-            if (depth < 0 || depth + 1 >= likely.length) {
+        private void goOn(int asked, int test, int stays) {
+            if (asked < 0 || asked + 1 >= likely.length) {
                 return;
             }
             for (int place = 0; place < PLACES; place++) {
                 int chance = book.plainChance(test, place);
-                likely[depth + 1][place] = likely[depth][place] * (stays == 1 ? chance : SURELY - chance);
+                likely[asked + 1][place] = likely[asked][place] * (stays == 1 ? chance : SURELY - chance);
             }
         }
 
-        private long costOfUp(int depth) {
-            if (depth < 0 || depth >= likely.length) {
+        private long costOfUp(int asked) {
+            if (asked < 0 || asked >= likely.length) {
                 return 0;
             }
             long dreaming = 0;
             for (int place = 1; place < PLACES; place++) {
-                dreaming += likely[depth][place];
+                dreaming += likely[asked][place];
             }
             return book.setting(Book.WRONG) * dreaming;
         }
 
-        private long costOfBed(int depth) {
-            if (depth < 0 || depth >= likely.length) {
+        private long costOfBed(int asked) {
+            if (asked < 0 || asked >= likely.length) {
                 return 0;
             }
-            return book.setting(Book.LATE) * likely[depth][0];
+            return book.setting(Book.LATE) * likely[asked][0];
         }
     }
 
@@ -1779,17 +1788,13 @@ public final class DreamTests {
                 began++;
                 return 0;
             }
-            if (act == ANSWER) {
-                return judgeAnswer(night, value >> 1, value & 1);
+            if (act != ANSWER) {
+                return night.getsUp() == (act == UP) ? 0 : NOT_DONE_SO;
             }
-            return night.getsUp() == (act == UP) ? 0 : NOT_DONE_SO;
-        }
-
-        private int judgeAnswer(Night night, int test, int stays) {
-            if (night.chanceOf(test, stays, where) == 0) {
+            if (night.chanceOf(value >> 1, value & 1, where) == 0) {
                 return CANNOT_BE;
             }
-            night.add(test, stays);
+            night.add(value >> 1, value & 1);
             if (night.isWronglySure(where)) {
                 return WRONGLY_SURE;
             }
