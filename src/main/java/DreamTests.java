@@ -1679,6 +1679,7 @@ public final class DreamTests {
         /** Of 'in' the place, of an answer 2 times the TEST, 1 more if it STAYS. */
         private final int[] values = new int[MOST_LINES];
         private int lines;
+        /** Of the night that began last. */
         private int asked;
         private int where;
         private int why = NONE;
@@ -1687,7 +1688,6 @@ public final class DreamTests {
 
         boolean readLines(Reader in, Book book) {
             lines = 0;
-            asked = 0;
             for (int i = 0; i <= MOST_LINES && in.kind != Reader.END; i++) {
                 if (!readLine(in, book) || !in.take(';')) {
                     return false;
@@ -1704,18 +1704,16 @@ public final class DreamTests {
                 return in.fail(Reader.UNFIT);
             }
             if (in.isAt(Word.UP) || in.isAt(Word.BED)) {
-                int act = in.isAt(Word.UP) ? UP : BED;
-                return putLine(in, act, 0);
+                return readAct(in, in.isAt(Word.UP) ? UP : BED);
             }
             return readAnswer(in, book);
         }
 
         private boolean readIn(Reader in, Book book) {
-            int line = lines;
-            if (!putLine(in, IN, 0)) {
-                return false;
+            if (lines >= MOST_LINES) {
+                return in.fail(Reader.TOO_MANY);
             }
-            asked = 0;
+            in.advance();
             int place = 0;
             if (!in.isAt(Word.ROOM)) {
                 int dream = in.dreamHere(book);
@@ -1725,45 +1723,45 @@ public final class DreamTests {
                 place = dream + 1;
             }
             in.advance();
-            if (line >= 0 && line < values.length) {
-                values[line] = place;
+            asked = 0;
+            put(IN, place);
+            return true;
+        }
+
+        private boolean readAct(Reader in, int act) {
+            if (lines >= MOST_LINES) {
+                return in.fail(Reader.TOO_MANY);
             }
+            in.advance();
+            put(act, 0);
             return true;
         }
 
         private boolean readAnswer(Reader in, Book book) {
-            int line = lines;
             int test = in.testHere(book);
             if (test == NONE) {
                 return false;
             }
-            if (asked >= MOST_ANSWERS) {
+            if (lines >= MOST_LINES || asked >= MOST_ANSWERS) {
                 return in.fail(Reader.TOO_MANY);
             }
-            if (!putLine(in, ANSWER, 0)) {
-                return false;
-            }
-            asked++;
-            if (!in.isAt(Word.STAYS) && !in.isAt(Word.MOVES)) {
+            in.advance();
+            boolean stays = in.isAt(Word.STAYS);
+            if (!stays && !in.isAt(Word.MOVES)) {
                 return in.fail(Reader.UNFIT);
             }
-            if (line >= 0 && line < values.length) {
-                values[line] = 2 * test + (in.isAt(Word.STAYS) ? 1 : 0);
-            }
             in.advance();
+            asked++;
+            put(ANSWER, 2 * test + (stays ? 1 : 0));
             return true;
         }
 
-        /** Goes on behind the LINE's first WORD, if a LINE can still come. */
-        private boolean putLine(Reader in, int act, int value) {
-            if (lines < 0 || lines >= acts.length) {
-                return in.fail(Reader.TOO_MANY);
+        private void put(int act, int value) {
+            if (lines >= 0 && lines < acts.length && lines < values.length) {
+                acts[lines] = act;
+                values[lines] = value;
+                lines++;
             }
-            acts[lines] = act;
-            values[lines] = value;
-            lines++;
-            in.advance();
-            return true;
         }
 
         /** The LINE that is WRONG, or NONE; the NIGHT is one to work on. */
@@ -1771,8 +1769,7 @@ public final class DreamTests {
             why = 0;
             began = 0;
             answers = 0;
-            where = 0;
-            for (int line = 0; line < lines && line < acts.length; line++) {
+            for (int line = 0; line < lines && line < acts.length && line < values.length; line++) {
                 why = judgeLine(night, acts[line], values[line]);
                 if (why != 0) {
                     return line;

@@ -107,6 +107,9 @@ public final class BookTest {
         Due.bookFault("dream k 1;dream l 1 k;", 3, 20);
         Due.bookFault("dream k 1 k;", 3, 10);
         Due.bookFault("test a 1 1;dream k 1 a a;", 3, 23);
+        String all = EIGHT_TESTS + "dream x 1 ta tb tc td te tf tg th ";
+        Due.bookFault(all + "ta;", 3, all.length());
+        Due.bookFault(all + "th th", 3, all.length());
         String[] once = {"room 1", "tired 1", "sure 8", "late 1", "wrong 1", "learn"};
         for (String line : once) {
             Due.bookFault(line + ";" + line + ";", 3, line.length() + 1);

@@ -106,9 +106,13 @@ public final class NightTest {
             full.ask(2, 0);
         }
         full.ask(1, 1);
-        full.sleep();
-        full.ask(0, 1);
-        full.undo();
+        int seed = 0;
+        full.drawn(12, seed);
+        while (full.answer(11) == 3) {
+            full.undo();
+            seed++;
+            full.drawn(12, seed);
+        }
         full.undo();
         Due.is("all 12 again", 12, full.count(8));
         Due.is("the last of them", 3, full.answer(11));
@@ -291,6 +295,9 @@ public final class NightTest {
             Due.is("drawn by " + seed, where, x.drawn(4, seed * 99991));
             Due.is("it can be there", 1, x.fits() >> where & 1);
         }
+        DreamTests one = Due.withBook("test a 9 0;");
+        Due.is("one TEST", 0, one.drawn(2, 5));
+        Due.is("it STAYS", 1, one.answer(1));
         Due.is("nowhere to draw", -1, Due.withBook("dream k 1;").drawn(1, 1));
         Due.is("no TESTS needed", drawnByHand(1, 1, 0, 7), Due.withBook("dream k 1;").drawn(0, 7));
     }

@@ -114,6 +114,9 @@ public final class SetTest {
         Due.same("as without c", "4/9", Due.fraction(y::lot));
         Due.same("a with c", "1/4", Due.fraction(w -> y.share(0, w)));
         Due.same("c too", "1/2", Due.fraction(w -> y.share(2, w)));
+        DreamTests last = Due.withBook("test c 0 9;test b 0 0;test a 0 0;");
+        Due.same("c is first and never asked", "0/1", Due.fraction(w -> last.share(0, w)));
+        Due.same("it is no odds", "1/2", Due.fraction(last::lot));
         DreamTests z = Due.withBook("test a 0 0;test b 0 0;test c 0 5;");
         Due.same("c is left", "0/1", Due.fraction(w -> z.share(2, w)));
         Due.same("a without c", "1/2", Due.fraction(w -> z.share(0, w)));
