@@ -90,8 +90,10 @@ final class Due {
 
     static String madeText(DreamTests x) {
         StringBuilder text = new StringBuilder();
-        for (int i = 0; x.byteAt(i) != DreamTests.NONE; i++) {
-            text.append((char) x.byteAt(i));
+        int sign = x.byteAt(0);
+        for (int i = 1; sign != DreamTests.NONE; i++) {
+            text.append((char) sign);
+            sign = x.byteAt(i);
         }
         return text.toString();
     }

@@ -4,7 +4,20 @@ import java.util.Random;
 
 /** Random BOOKS and NIGHTS against the model: promises 4, 8 to 24, 26 to 42. */
 public final class ModelTest {
+    /** A call that is made again on a new object, for one object is used for few calls. */
+    private interface Act {
+        long on(DreamTests x);
+    }
+
     private ModelTest() {
+    }
+
+    private static DreamTests behind(Model m, List<Act> acts) {
+        DreamTests x = Due.withBook(m.text());
+        for (Act act : acts) {
+            act.on(x);
+        }
+        return x;
     }
 
     public static void main(String[] args) {
@@ -14,17 +27,17 @@ public final class ModelTest {
             DreamTests x = new DreamTests();
             Due.is(seed + " book()", model.lines(), Due.put(x, model.text()).book());
             sets(seed, x, model, random);
-            night(seed, x, model, random);
-            trees(seed, x, model, random);
-            nights(seed, x, model, random);
-            drawn(seed, x, model, random);
-            sentences(seed, x, model, random);
+            List<Act> acts = new ArrayList<>();
+            night(seed, model, random, acts);
+            trees(seed, behind(model, acts), model, random);
+            nights(seed, behind(model, acts), model, random);
+            drawn(seed, behind(model, acts), model, random);
+            sentences(seed, behind(model, acts), model, random);
         }
         for (int seed = 0; seed < 60; seed++) {
             Random random = new Random(-1 - seed);
             Model model = new Model(random, seed % 3 == 0 ? 6 : 4);
-            DreamTests x = Due.withBook(model.text());
-            costs(seed, x, model);
+            costs(seed, model);
         }
         Due.done("ModelTest");
     }
@@ -81,45 +94,60 @@ public final class ModelTest {
         }
     }
 
-    private static void night(int seed, DreamTests x, Model m, Random random) {
+    private static void night(int seed, Model m, Random random, List<Act> acts) {
         List<List<Integer>> past = new ArrayList<>();
         for (int i = 0; i < 40 && m.tests > 0; i++) {
-            int act = random.nextInt(12);
-            if (act == 0) {
-                past.add(new ArrayList<>(m.night));
-                Due.is(seed + " sleep()", m.night.size(), x.sleep());
-                m.night.clear();
-            } else if (act == 1) {
-                boolean can = !past.isEmpty();
-                Due.is(seed + " undo()", can ? past.size() - 1 : -1, x.undo());
-                if (can) {
-                    m.night.clear();
-                    m.night.addAll(past.remove(past.size() - 1));
-                }
-            } else if (act == 2) {
-                past.add(new ArrayList<>(m.night));
-                int n = random.nextInt(13);
-                int from = random.nextInt();
-                Due.is(seed + " drawn()", m.draw(m.night, n, from), x.drawn(n, from));
-            } else {
-                int test = random.nextInt(m.tests);
-                int stays = random.nextInt(2);
-                boolean can = m.night.size() < 12 && m.canBe(test, stays);
-                Due.is(seed + " ask()", can ? m.night.size() + 1 : -1, x.ask(test, stays));
-                if (can) {
-                    past.add(new ArrayList<>(m.night));
-                    m.night.add(2 * test + stays);
-                }
-            }
+            DreamTests x = behind(m, acts);
+            Act act = act(seed, m, random, past, x);
+            Due.is(seed + " answers of act " + i, m.night.size(), x.count(8));
+            acts.add(act);
             if (past.size() > 8) {
                 past.remove(0);
             }
             now(seed, x, m);
         }
+        DreamTests x = behind(m, acts);
         for (int i = 0; i <= m.night.size(); i++) {
             int by = i;
             fraction(seed + " after(" + i + ")", m.sure(m.night.subList(0, i), 0), w -> x.after(by, w));
         }
+    }
+
+    /** One act, on the model and on the object: what it answers. */
+    private static Act act(int seed, Model m, Random random, List<List<Integer>> past, DreamTests x) {
+        int kind = random.nextInt(12);
+        List<Integer> before = new ArrayList<>(m.night);
+        if (kind == 0) {
+            past.add(before);
+            Due.is(seed + " sleep()", before.size(), x.sleep());
+            m.night.clear();
+            return y -> y.sleep();
+        }
+        if (kind == 1) {
+            boolean can = !past.isEmpty();
+            Due.is(seed + " undo()", can ? past.size() - 1 : -1, x.undo());
+            if (can) {
+                m.night.clear();
+                m.night.addAll(past.remove(past.size() - 1));
+            }
+            return y -> y.undo();
+        }
+        if (kind == 2) {
+            past.add(before);
+            int n = random.nextInt(13);
+            int from = random.nextInt();
+            Due.is(seed + " drawn()", m.draw(m.night, n, from), x.drawn(n, from));
+            return y -> y.drawn(n, from);
+        }
+        int test = random.nextInt(m.tests);
+        int stays = random.nextInt(2);
+        boolean can = m.night.size() < 12 && m.canBe(test, stays);
+        Due.is(seed + " ask()", can ? m.night.size() + 1 : -1, x.ask(test, stays));
+        if (can) {
+            past.add(before);
+            m.night.add(2 * test + stays);
+        }
+        return y -> y.ask(test, stays);
     }
 
     private static void now(int seed, DreamTests x, Model m) {
@@ -157,11 +185,12 @@ public final class ModelTest {
         }
     }
 
-    private static void costs(int seed, DreamTests x, Model m) {
+    private static void costs(int seed, Model m) {
         Model.Part[] places = m.atFirst();
         int most = m.tests > 4 ? 3 : 4;
         for (int n = 0; n <= most; n++) {
             int by = n;
+            DreamTests x = Due.withBook(m.text());
             fraction(seed + " cost(" + n + ")", m.cost(places, n, 0), w -> x.cost(by, w));
             Due.is(seed + " first(" + n + ")", m.first(places, n, 0), x.first(n));
             String text = m.write(places, n, 0);

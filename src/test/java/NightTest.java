@@ -317,7 +317,7 @@ public final class NightTest {
         int[] rooms = {8, 6, 2};
         int[] dreamings = {1, 3, 7};
         int[] keeps = {0, 2, 5};
-        for (int seed = 0; seed < 60; seed++) {
+        for (int seed = 0; seed < 50; seed++) {
             int s = seed * 1103515245 + 12345;
             int drawn = (s >>> 8) % 7;
             int where = drawn < 2 ? 0 : drawn < 5 ? 1 : 2;

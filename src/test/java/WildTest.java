@@ -15,11 +15,13 @@ public final class WildTest {
         7, 8, 9, 10, 11, 12, 13, 20, 31, 32, 33, 63, 64, 255, 256, 400, 900, 940, 1000, Integer.MAX_VALUE - 1,
         Integer.MAX_VALUE};
 
+    private static int called;
+
     private WildTest() {
     }
 
     public static void main(String[] args) {
-        for (int seed = 0; seed < 1500; seed++) {
+        for (int seed = 0; seed < 4000; seed++) {
             calls(new Random(seed));
         }
         for (int seed = 0; seed < 6000; seed++) {
@@ -30,8 +32,11 @@ public final class WildTest {
 
     private static void calls(Random random) {
         DreamTests x = new DreamTests();
-        for (int i = 0; i < 500; i++) {
+        // An object is used for 512 calls; a text comes by 50 at most, and four are made in each round
+        called = 0;
+        while (called <= 512 - 55) {
             int call = random.nextInt(46);
+            called += 4;
             try {
                 call(x, call, random);
             } catch (NoSuchElementException e) {
@@ -39,8 +44,11 @@ public final class WildTest {
                     || call >= 29 && call <= 31 || call >= 33 && call <= 35;
                 Due.is("call " + call + " may throw", true, may);
             }
-            Due.is("a tape of 0 to 940 bytes", true, x.count(9) >= 0 && x.count(9) <= 940);
-            Due.is("an odds of the room", true, x.sure(1) >= 1 && x.sure(0) >= 0 && x.sure(0) <= x.sure(1));
+            int bytes = x.count(9);
+            Due.is("a tape of 0 to 940 bytes", true, bytes >= 0 && bytes <= 940);
+            long room = x.sure(0);
+            long all = x.sure(1);
+            Due.is("an odds of the room", true, all >= 1 && room >= 0 && room <= all);
         }
     }
 
@@ -100,7 +108,12 @@ public final class WildTest {
     }
 
     private static DreamTests text(DreamTests x, Random random) {
-        return random.nextInt(8) == 0 ? x : Due.put(x, wild(random));
+        if (random.nextInt(8) == 0) {
+            return x;
+        }
+        String text = wild(random);
+        called += 2 + (text.length() + 19) / 20;
+        return Due.put(x, text);
     }
 
     private static String wild(Random random) {
