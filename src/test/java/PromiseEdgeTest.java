@@ -16,6 +16,8 @@ public final class PromiseEdgeTest {
         fullTree();
         fullSets();
         fullSentence();
+        fullOrders();
+        fullNights();
         fullImage();
         emptyBook();
         emptyDreams();
@@ -188,6 +190,55 @@ public final class PromiseEdgeTest {
         x.ask(6, 1);
         said(x, "asked", 6, 7);
         said(x, "not asked", 0, 1, 2, 3, 4, 5);
+        x.sleep();
+        x.ask(0, 1);
+        said(x, "asked", 0);
+    }
+
+    /** Each SIGN with each NUMBER: below, at and above what a TEST has. */
+    private static void fullOrders() {
+        String[] words = {"rooms", "dreams", "place"};
+        for (int number = 0; number <= 99; number++) {
+            for (String word : words) {
+                DreamTests x = full();
+                for (int sign = -1; sign <= 1; sign++) {
+                    String text = word + "<=>".charAt(sign + 1) + number;
+                    Due.is("ONES of " + text, 1, Due.put(x, text).sentence());
+                    int many = 0;
+                    for (int test = 0; test < 8; test++) {
+                        int value = word.equals("rooms") ? 9 : test;
+                        if (Integer.compare(value, number) == sign) {
+                            Due.is("said(" + many + ") of " + text, test, x.said(many));
+                            many++;
+                        }
+                    }
+                    Due.is("how many: " + text, many, x.said(-1));
+                    Due.is("no more: " + text, -1, x.said(many));
+                }
+            }
+        }
+    }
+
+    /** Of 40 LINES each may be the one that is WRONG, and the last one too. */
+    private static void fullNights() {
+        for (int line = 0; line <= 40; line++) {
+            DreamTests x = Due.withBook("test a 5 5;dream k 1;");
+            StringBuilder text = new StringBuilder("in k;");
+            for (int i = 1; i < 40; i++) {
+                text.append(i == line ? "bed;" : i % 4 == 2 ? "in room;" : i % 4 == 3 ? "a moves;" : "up;");
+            }
+            int wrong = line == 0 || line == 40 ? -1 : line;
+            Due.is("nights() with 'bed' at " + line, wrong, Due.put(x, text.toString()).nights());
+            Due.is("why", wrong < 0 ? 0 : 3, x.judged(0));
+            int began = 1;
+            int answers = 0;
+            for (int i = 1; i < 40 && (wrong < 0 || i < wrong); i++) {
+                began += i % 4 == 2 ? 1 : 0;
+                answers += i % 4 == 3 ? 1 : 0;
+            }
+            Due.is("nights that began up to " + line, began, x.judged(1));
+            Due.is("answers up to " + line, answers, x.judged(2));
+        }
     }
 
     private static void fullImage() {

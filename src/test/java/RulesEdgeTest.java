@@ -385,6 +385,9 @@ public final class RulesEdgeTest {
         Due.is("the first of two", 1, Due.withBook("test a 5 5;test b 8 1;test c 1 8;dream k 1;").next());
         // 8 of the room or dreams count alike
         Due.is("a dream is told as well", 1, Due.withBook("test a 4 5;test b 0 9;dream k 1;").next());
+        // With the room by 3: b 15, or 12 and 9, makes 27; a 27, and 5 makes 32
+        Due.is("greatest in the mean", 1, Due.withBook("test b 5 0;test a 9 4;dream k 1;room 3;").next());
+        Due.is("of dreams too", 1, Due.withBook("test b 0 5;test a 4 9;dream k 3;room 1;").next());
         DreamTests last = Due.withBook("test a 5 5;test b 5 5;test c 5 5;test d 5 5;test e 5 5;test f 5 5;test g 5 5;"
             + "test h 5 4;dream k 1;");
         Due.is("the last one", 7, last.next());

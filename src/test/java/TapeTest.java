@@ -7,6 +7,7 @@ public final class TapeTest {
         newObject();
         feed();
         feedWrites();
+        feedWritesEach();
         end();
         tapeEmptied();
         Due.done("TapeTest");
@@ -55,6 +56,22 @@ public final class TapeTest {
         Due.is("book() as fed", 2, x.book());
         Due.is("a ROOM", 1, x.test(0, 0));
         Due.is("b DREAM", 4, x.test(1, 1));
+    }
+
+    /** Each of the twenty bytes in its place, and none of the others: all that can be in one. */
+    private static void feedWritesEach() {
+        for (int at = 0; at < 20; at++) {
+            for (int sign = 0; sign < 256; sign++) {
+                int[] five = {0x20202020, 0x20202020, 0x20202020, 0x20202020, 0x20202020};
+                int shift = 24 - at % 4 * 8;
+                five[at / 4] = five[at / 4] & ~(255 << shift) | sign << shift;
+                DreamTests x = new DreamTests();
+                x.feed(five[0], five[1], five[2], five[3], five[4]);
+                boolean blank = sign == 32 || sign == 10;
+                Due.is("byte " + sign + " at " + at, blank ? 0 : -1 - at, x.book());
+                Due.is("its FAULT", blank ? 0 : 1, x.fault());
+            }
+        }
     }
 
     private static void end() {

@@ -33,6 +33,7 @@ public final class TermsEdgeTest {
         treeWays();
         onesInAll();
         onesWithin();
+        onesBetween();
         ends();
         firstAlongTheText();
         leastOfOneToken();
@@ -435,6 +436,10 @@ public final class TermsEdgeTest {
             faulty(SENTENCE, book, nineteen + "or " + one + " and " + one, 4, nineteen.length() + one.length() + 8);
             faulty(SENTENCE, book, nineteen + "or " + one + " or " + one, 4, nineteen.length() + one.length() + 7);
         }
+        String ands = "good and ".repeat(19);
+        fine(SENTENCE, book, ands + "good", 20);
+        faulty(SENTENCE, book, ands + "good and good", 4, ands.length() + 9);
+        faulty(SENTENCE, book, ands + "good and not", 4, ands.length() + 9);
         faulty(SENTENCE, book, nineteen + "or good or (", 4, nineteen.length() + 11);
         faulty(SENTENCE, book, nineteen + "or good or not", 4, nineteen.length() + 11);
         faulty(SENTENCE, book, nineteen + "or good or kept x", 4, nineteen.length() + 11);
@@ -459,6 +464,31 @@ public final class TermsEdgeTest {
         fine(SENTENCE, book, "((((((( good )))))))or not not not not not not not good", 16);
         faulty(SENTENCE, book, "((((((( good and asked and not good )))))))", 4, 31);
         faulty(SENTENCE, book, "((((((( good or ( good", 4, 18);
+    }
+
+    /** Between ONES stands one 'or' or 'and', ahead of the first and behind the last one none. */
+    private static void onesBetween() {
+        String book = "test a 9 0;dream k 1;";
+        String[] words = {"or", "and"};
+        for (String word : words) {
+            int size = word.length();
+            fine(SENTENCE, book, "good " + word + " good", 2);
+            faulty(SENTENCE, book, word + " good", 1, 0);
+            faulty(SENTENCE, book, "good " + word, 1, 5 + size);
+            for (String other : words) {
+                faulty(SENTENCE, book, "good " + word + " " + other + " good", 1, 6 + size);
+                faulty(SENTENCE, book, "(" + word + " good) " + other + " good", 1, 1);
+                faulty(SENTENCE, book, "not " + word + " good " + other + " good", 1, 4);
+                faulty(SENTENCE, book, "kept " + word + " good " + other + " good", 1, 5);
+                faulty(SENTENCE, book, "kept x " + word + " good " + other + " good", 3, 5);
+                faulty(SENTENCE, book, "place " + word + " good " + other + " good", 1, 6);
+                faulty(SENTENCE, book, "place < " + word + " good " + other + " good", 1, 8);
+            }
+        }
+        faulty(SENTENCE, book, "good good", 1, 5);
+        faulty(SENTENCE, book, "good not good", 1, 5);
+        faulty(SENTENCE, book, "good (good)", 1, 5);
+        faulty(SENTENCE, book, "(good) (good)", 1, 7);
     }
 
     /** A text that ends too early has its FAULT behind its last byte, blanks and all. */
