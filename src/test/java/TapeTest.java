@@ -9,6 +9,7 @@ public final class TapeTest {
         feedWrites();
         feedWritesEach();
         end();
+        endCutsOff();
         tapeEmptied();
         Due.done("TapeTest");
     }
@@ -89,6 +90,29 @@ public final class TapeTest {
         Due.is("end(7)", true, x.end(7));
         Due.is("seven", 7, x.count(9));
         Due.is("end(8)", false, x.end(8));
+    }
+
+    /** What end() cut off is gone: it goes on no TOKEN, and new bytes come where it was. */
+    private static void endCutsOff() {
+        DreamTests x = Due.withBook("test a 9 0;test b 9 0;");
+        Due.put(x, "upon");
+        x.end(2);
+        Due.is("'up' of 'upon'", 0, x.tree());
+        Due.put(x, "place<19");
+        x.end(7);
+        Due.is("'place<1' of 'place<19'", 1, x.sentence());
+        Due.is("a alone", 1, x.said(-1));
+        Due.put(x, "in room;up;bed;");
+        x.end(11);
+        Due.is("NIGHTS without 'bed'", -1, x.nights());
+        Due.put(x, "learn;room 1;");
+        x.end(6);
+        Due.is("a BOOK of one LINE", 1, x.book());
+        x.feed(0x6c656172, 0x6e3b7878, 0x78787878, 0x78787878, 0x78787878);
+        x.end(5);
+        x.feed(0x3b726f6f, 0x6d203230, 0x3b202020, 0x20202020, 0x20202020);
+        Due.is("'learn' and ';room 20;'", 2, x.book());
+        Due.is("the room's WEIGHT", 20, x.count(2));
     }
 
     private static void tapeEmptied() {
