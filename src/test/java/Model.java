@@ -65,6 +65,16 @@ final class Model {
     static final Part ZERO = Part.of(0, 1);
     static final Part ONE = Part.of(1, 1);
 
+    /** An empty BOOK. */
+    Model() {
+        tests = 0;
+        dreams = 0;
+        room = new int[0];
+        dreaming = new int[0];
+        weight = new int[] {1};
+        keeps = new int[] {0};
+    }
+
     Model(Random random, int mostTests) {
         tests = random.nextInt(mostTests + 1);
         dreams = random.nextInt(7);

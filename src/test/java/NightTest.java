@@ -6,7 +6,7 @@ public final class NightTest {
     }
 
     public static void main(String[] args) {
-        readme();
+        fedByHand();
         ask();
         nowhere();
         sleepAndAnswer();
@@ -26,14 +26,14 @@ public final class NightTest {
         Due.done("NightTest");
     }
 
-    private static void readme() {
+    private static void fedByHand() {
         DreamTests x = new DreamTests();
         x.feed(0x74657374, 0x20612039, 0x20303b64, 0x7265616d, 0x206b2031);
         x.feed(0x3b000000, 0, 0, 0, 0);
         x.end(21);
-        Due.is("README: book()", 2, x.book());
-        Due.is("README: ask(0, 1)", 1, x.ask(0, 1));
-        Due.same("README: sure", "1/1", Due.fraction(x::sure));
+        Due.is("fed by hand: book()", 2, x.book());
+        Due.is("fed by hand: ask(0, 1)", 1, x.ask(0, 1));
+        Due.same("fed by hand: sure", "1/1", Due.fraction(x::sure));
     }
 
     private static void ask() {
